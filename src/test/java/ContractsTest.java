@@ -6,6 +6,7 @@ public final class ContractsTest {
         whatIsWrong();
         spare();
         spareWithoutPay();
+        spareOfEachClub();
         pays();
         choices();
         choicesLeft();
@@ -106,6 +107,20 @@ public final class ContractsTest {
         Due.is("0 is not above a spare of 0", x.sign(1, 0, 1, 0, 0, 0, false), 1);
         Due.is("and uses it", x.club(0, 0, 3), 1);
         Due.is("once", x.sign(2, 0, 1, 0, 0, 0, false), 0);
+    }
+
+    private static void spareOfEachClub() {
+        CapLeague x = Due.withPlayers(8);
+        Due.laws(x, 0, "cap 1;spare 20;");
+        for (int c = 0; c < 8; c++) {
+            Due.is("by spare " + c, x.sign(c, c, 1, 20, 0, 0, false), 1);
+            Due.is("used " + c, x.club(c, 0, 3), 1);
+        }
+        Due.endYear(x);
+        for (int c = 0; c < 8; c++) {
+            Due.is("free " + c, x.club(c, 1, 3), 0);
+            Due.is("by spare again " + c, x.sign(c, c, 1, 20, 0, 0, false), 1);
+        }
     }
 
     private static void pays() {

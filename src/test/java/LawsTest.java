@@ -150,6 +150,9 @@ public final class LawsTest {
         fault("5;", 1, 0);
         fault("cap 5;;", 1, 6);
         fault("caps 5;", 1, 0);
+        fault("map 5;", 1, 0);
+        fault("capz 5;", 1, 0);
+        fault("acap 5;", 1, 0);
         fault("ca p 5;", 1, 0);
         fault("Cap 5;", 1, 0);
         fault("cAp 5;", 1, 0);

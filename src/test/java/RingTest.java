@@ -14,6 +14,7 @@ public final class RingTest {
         theLatestThatToldASum();
         illegalRings();
         rostersToldLower();
+        sixtyPlayers();
         Random random = new Random(7);
         for (int i = 0; i < 150; i++) {
             againstAllTrades(random);
@@ -131,6 +132,40 @@ public final class RingTest {
         Due.is("0 has one too many", x.ring(), -1);
         x.waive(8);
         Due.is("not any more", x.ring(), 10);
+    }
+
+    private static void sixtyPlayers() {
+        CapLeague x = Due.withPlayers(60);
+        for (int p = 0; p < 60; p++) {
+            x.sign(p, p % 8, 1, 10, 0, 0, false);
+            for (int c = 0; c < 8; c++) {
+                x.worth(c, p, p % 8 == c ? 0 : worthToOthers(p));
+            }
+        }
+        // To all other clubs a player is worth the same, so the dearest of three clubs go round.
+        int first = x.ring();
+        int[] row = {x.ringed(0), x.ringed(1), x.ringed(2), x.ringed(3), x.ringed(4), x.ringed(5), x.ringed(6)};
+        int due = 0;
+        for (int a = 0; a < 60; a++) {
+            for (int b = 0; b < 60; b++) {
+                for (int c = 0; c < 60; c++) {
+                    if (a % 8 != b % 8 && b % 8 != c % 8 && a % 8 != c % 8) {
+                        due = Math.max(due, worthToOthers(a) + worthToOthers(b) + worthToOthers(c));
+                    }
+                }
+            }
+        }
+        Due.is("the dearest of three clubs", first, due);
+        Due.is("three clubs", row[0], 3);
+        for (int i = 0; i < 3; i++) {
+            Due.is("its own player", row[4 + i] % 8, row[1 + i]);
+        }
+        Due.is("again", x.ring(), due);
+    }
+
+    /** The first and the last player in a row by clubs are the dearest, so that none may be left out. */
+    private static int worthToOthers(int p) {
+        return p == 0 || p == 55 ? 99 : 1 + p * 37 % 50;
     }
 
     private static void againstAllTrades(Random random) {

@@ -12,6 +12,7 @@ public final class TradesTest {
         firstByClubs();
         othersAreNotAsked();
         gains();
+        gainsOfEachTurn();
         worthsOutOfRange();
         dealsAreDone();
         contractsGoAlong();
@@ -259,6 +260,20 @@ public final class TradesTest {
         Due.is("another", x.gain(7), 0);
         Due.is("no club", x.gain(8), -2000000000);
         Due.is("no club below", x.gain(-1), -2000000000);
+    }
+
+    private static void gainsOfEachTurn() {
+        CapLeague x = new CapLeague();
+        for (int of = 0; of < 8; of++) {
+            for (int year = 0; year < 10; year += 3) {
+                x.worthTurn(of, of, year, 10 + year);
+                x.worthTurn((of + 1) % 8, of, year, 100 + year);
+                x.trade();
+                x.giveTurn(of, year, (of + 1) % 8, 0);
+                Due.is("who gives " + of, x.gain(of), -10 - year);
+                Due.is("who gets " + of, x.gain((of + 1) % 8), 100 + year);
+            }
+        }
     }
 
     private static void worthsOutOfRange() {

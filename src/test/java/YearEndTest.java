@@ -4,6 +4,7 @@ public final class YearEndTest {
         tenYears();
         finesAreShared();
         finesOfAll();
+        finesOfAllButOne();
         withoutTax();
         finesAddUp();
         theHurtAndTheDead();
@@ -59,6 +60,13 @@ public final class YearEndTest {
         Due.laws(x, 0, "cap 10;tax 100;");
         Due.endYear(x);
         purses(x, 36, 1, 2, 3, 4, 5, 6, 7, 8);
+    }
+
+    private static void finesOfAllButOne() {
+        CapLeague x = clubs(11, 12, 13, 10, 15, 16, 17, 18);
+        Due.laws(x, 0, "cap 10;tax 50;");
+        Due.endYear(x);
+        purses(x, 0, 0, 1, 1, -14, 2, 3, 3, 4);
     }
 
     private static void withoutTax() {
