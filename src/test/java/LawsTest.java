@@ -222,6 +222,8 @@ public final class LawsTest {
         Due.is("a year gone", x.laws(0), -2);
         Due.is("the clock's", x.laws(1), 0);
         Due.is("the last", Due.laws(x, 9, "cap 9;"), 1);
+        Due.is("of the last", x.law(9, 0), 9);
+        Due.is("of the one ahead of it", x.law(8, 0), 1000);
         Due.is("of a year gone", x.law(0, 0), 1000);
     }
 }
