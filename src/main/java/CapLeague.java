@@ -81,11 +81,13 @@ public final class CapLeague {
     // ---- laws
 
     public int laws(int year) {
-        if (!isYear(year) || year < books.clock) {
-            return RANGE;
-        }
-        int lines = reader.readText();
+        int answer = books.isNowOrLater(year) ? readLaws(year) : RANGE;
         tape.size = 0;
+        return answer;
+    }
+
+    private int readLaws(int year) {
+        int lines = reader.readText();
         if (lines != NONE) {
             lawBook.tell(year, reader.read);
         }
@@ -171,7 +173,7 @@ public final class CapLeague {
     }
 
     public int club(int c, int year, int what) {
-        if (!isClub(c) || !isYear(year) || year < books.clock) {
+        if (!isClub(c) || !books.isNowOrLater(year)) {
             return RANGE;
         }
         switch (what) {
@@ -208,7 +210,7 @@ public final class CapLeague {
     }
 
     public int giveTurn(int of, int year, int club, int k) {
-        if (!isClub(of) || !isYear(year) || !isClub(club) || k < 0 || k > CLUBS) {
+        if (!isClub(of) || !books.isNowOrLater(year) || !isClub(club) || k < 0 || k > CLUBS) {
             return RANGE;
         }
         int key = Turns.keyOf(of, year);
@@ -796,6 +798,11 @@ public final class CapLeague {
 
         Laws lawsNow() {
             return lawBook.of(clock);
+        }
+
+        /** Whether there is such a year, and it is not gone. */
+        boolean isNowOrLater(int year) {
+            return isYear(year) && year >= clock;
         }
 
         int addPlayer() {

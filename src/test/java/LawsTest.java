@@ -11,6 +11,7 @@ public final class LawsTest {
         boundsOfEachNumber();
         faults();
         faultStays();
+        tapeIsEmptyThen();
         lawsOfYears();
         Due.done();
     }
@@ -208,10 +209,31 @@ public final class LawsTest {
         Due.is("no such year", Due.laws(x, 10, "cap 5;"), -2);
         Due.is("kind stays", x.fault(0), 2);
         Due.is("place stays", x.fault(1), 4);
-        Due.is("the tape is not read", x.count(4), 6);
-        Due.is("now it is", x.laws(9), 1);
+        Due.is("no law of it", x.law(9, 0), 1000);
+        Due.is("an empty tape", x.laws(9), 0);
         Due.is("kind gone", x.fault(0), 0);
         Due.is("place gone", x.fault(1), -1);
+    }
+
+    private static void tapeIsEmptyThen() {
+        CapLeague x = new CapLeague();
+        emptiesTape(x, "lines", 0, "cap 5;", 1);
+        emptiesTape(x, "a fault", 0, "cap;", -1);
+        emptiesTape(x, "a year below 0", -1, "cap 6;", -2);
+        emptiesTape(x, "a year above 9", 10, "cap 7;", -2);
+        emptiesTape(x, "the least int", Integer.MIN_VALUE, "cap 8;", -2);
+        emptiesTape(x, "the greatest int", Integer.MAX_VALUE, "cap 9;", -2);
+        Due.endYear(x);
+        emptiesTape(x, "a year gone", 0, "cap 10;", -2);
+        Due.is("only the first was told", x.law(0, 0), 5);
+        Due.is("in the last year too", x.law(9, 0), 5);
+    }
+
+    private static void emptiesTape(CapLeague x, String what, int year, String text, int due) {
+        Due.is(what, Due.laws(x, year, text), due);
+        Due.is(what + ": bytes", x.count(4), 0);
+        Due.is(what + ": none to keep", x.end(1), -1);
+        Due.is(what + ": fed anew", x.feed(0, 0, 0, 0, 0), 20);
     }
 
     private static void lawsOfYears() {

@@ -3,6 +3,7 @@ public final class TradesTest {
     public static void main(String[] args) {
         givePlayers();
         giveTurns();
+        giveTurnOfYearGone();
         fourClubsAtMost();
         twelveMovesAtMost();
         whatBeginsItAnew();
@@ -72,8 +73,34 @@ public final class TradesTest {
         x.draw(0, 0);
         Due.is("the draft was", x.giveTurn(4, 0, 1, 0), -4);
         x.next();
-        Due.is("a year gone", x.giveTurn(4, 0, 1, 0), -4);
         Due.is("this year", x.giveTurn(4, 1, 1, 0), 1);
+    }
+
+    /** A year gone is no such year, whatever else would refuse a move of its turn. */
+    private static void giveTurnOfYearGone() {
+        CapLeague x = oneEach(1);
+        x.giveTurn(0, 0, 1, 8);
+        x.giveTurn(2, 0, 3, 0);
+        x.deal();
+        Due.table(x, "CBADEFGH");
+        x.draw(0, 0);
+        Due.is("drawn this year", x.giveTurn(4, 0, 5, 0), -4);
+        Due.is("drawn, its own", x.giveTurn(4, 0, 4, 0), -4);
+        x.next();
+        Due.is("free to give once", x.giveTurn(4, 0, 5, 0), -2);
+        Due.is("its own", x.giveTurn(4, 0, 4, 0), -2);
+        Due.is("of another one", x.giveTurn(2, 0, 4, 0), -2);
+        Due.is("gone back", x.giveTurn(0, 0, 1, 0), -2);
+        Due.is("this year, its own", x.giveTurn(4, 1, 4, 0), -4);
+        for (int year = 1; year < 9; year++) {
+            Due.endYear(x);
+        }
+        Due.is("the last but one", x.giveTurn(4, 8, 5, 0), -2);
+        Due.is("the last one", x.giveTurn(4, 9, 5, 0), 1);
+        Due.table(x, "ABCDEFGH");
+        x.draw(0, 0);
+        Due.is("drawn in the last year", x.giveTurn(4, 9, 5, 0), -4);
+        Due.is("no moves", x.count(2), 0);
     }
 
     private static void fourClubsAtMost() {
