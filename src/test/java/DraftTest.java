@@ -41,6 +41,7 @@ public final class DraftTest {
         Due.is("0 is the first", x.chance(0, 0, 0), 1);
         Due.is("draw", x.draw(0, 0), 1);
         Due.is("the draft was", Due.table(x, "HGFEDCBA"), -4);
+        Due.is("the tape is empty when the draft was", x.count(4), 0);
         Due.is("is none, and the draft was", Due.table(x, "HGFEDCB"), -1);
         Due.is("told still", x.count(5), 1);
         Due.is("chances still", x.chance(0, 0, 0), 1);

@@ -92,6 +92,8 @@ public final class TradesTest {
         Due.is("of another one", x.giveTurn(2, 0, 4, 0), -2);
         Due.is("gone back", x.giveTurn(0, 0, 1, 0), -2);
         Due.is("this year, its own", x.giveTurn(4, 1, 4, 0), -4);
+        Due.is("its worth is told still", x.worthTurn(5, 4, 0, 7), 0);
+        Due.is("and again", x.worthTurn(5, 4, 0, 8), 7);
         for (int year = 1; year < 9; year++) {
             Due.endYear(x);
         }
