@@ -1,16 +1,32 @@
+import java.util.function.IntToLongFunction;
+
 /** Compares answers with those that are due, and puts texts on the tape. */
 final class Due {
     private static int asked = 0;
     private static int wrong = 0;
+    private static String sentence = "";
 
     private Due() {
+    }
+
+    /** The words of the document that the next answers are due by. */
+    static void says(String words) {
+        sentence = words;
     }
 
     static void is(String call, long got, long want) {
         asked++;
         if (got != want) {
             wrong++;
-            System.out.println(call + " answered " + got + ", due is " + want);
+            System.out.println(call + " answered " + got + ", due is " + want
+                    + (sentence.isEmpty() ? "" : " (" + sentence + ")"));
+        }
+    }
+
+    /** The same of many calls: what is asked of each of these numbers has one answer. */
+    static void each(String call, IntToLongFunction asks, long want, int... numbers) {
+        for (int number : numbers) {
+            is(call + " of " + number, asks.applyAsLong(number), want);
         }
     }
 
