@@ -294,6 +294,8 @@ public final class EdgeLawsTest {
             fine(word + numbers, 1);
             fault(word + "a" + numbers, 1, 0);
             fault("z" + word + numbers, 1, 0);
+            fault("z" + word.substring(1) + numbers, 1, 0);
+            fault(word.substring(0, word.length() - 1) + "q" + numbers, 1, 0);
             fault(word + word + numbers, 1, 0);
             fault(word.substring(1) + numbers, 1, 0);
             fault(word.substring(0, word.length() - 1) + numbers, 1, 0);

@@ -34,6 +34,7 @@ public final class EdgeTradesTest {
         aboveMatchCut();
         rosterAheadOfCap();
         firstByClubs();
+        whatOthersGiveIsNotItsOwn();
         paysOfTheHurt();
         gainOfNoSuchClub();
         gainWithoutMoves();
@@ -48,6 +49,8 @@ public final class EdgeTradesTest {
         gainOfNothingIsNoRing();
         ringOfTwoOrThree();
         ringsThatAreNotLegal();
+        ringsAboveRoster();
+        ringsOfSixtyPlayers();
         fewestClubs();
         leastRowOfClubs();
         leastRowOfPlayers();
@@ -150,8 +153,9 @@ public final class EdgeTradesTest {
         Due.is("a fifth gives", x.give(4, 0), -4);
         Due.is("a fifth and a sixth", x.give(5, 6), -4);
         Due.is("what is refused brings no club", x.give(3, 0), 4);
+        Due.is("among the four, to the last", x.give(8, 3), 5);
         Due.is("legal", x.check(), 0);
-        Due.is("done", x.deal(), 4);
+        Due.is("done", x.deal(), 5);
         Due.is("four others", x.give(4, 5), 1);
         Due.is("the four", x.give(6, 7), 2);
     }
@@ -509,6 +513,24 @@ public final class EdgeTradesTest {
         Due.is("of 2, told behind 6", x.check(), 202);
     }
 
+    private static void whatOthersGiveIsNotItsOwn() {
+        Due.says("Terms III: WRONG by CLUBS: PLAYERS that come in, those that go out: of the CLUB itself");
+        CapLeague x = Due.withPlayers(4);
+        x.sign(0, 0, 1, 60, 0, 0, false);
+        x.sign(1, 0, 1, 40, 0, 0, false);
+        x.sign(2, 2, 1, 80, 0, 0, false);
+        x.sign(3, 1, 1, 50, 0, 0, false);
+        Due.laws(x, 0, "cap 100;match 100 0;roster 2;");
+        x.give(0, 1);
+        x.give(2, 0);
+        x.give(3, 2);
+        Due.is("60 for 80", x.check(), 2);
+        Due.laws(x, 0, "cap 120;match 100 0;roster 1;");
+        Due.is("one for one, with one more", x.check(), 1);
+        Due.laws(x, 0, "cap 120;match 100 0;roster 2;");
+        Due.is("none", x.check(), 0);
+    }
+
     private static void paysOfTheHurt() {
         Due.says("Terms III: it would COUNT above cap, and the pays: COUNTS are less by the hurt, pays are not");
         CapLeague x = Due.withPlayers(2);
@@ -538,8 +560,11 @@ public final class EdgeTradesTest {
         Due.says("Promise 19: GAIN of a CLUB by the TRADE: by none, 0");
         CapLeague x = pairs(1);
         x.worth(0, 1, 50);
+        x.worth(2, 1, 70);
+        x.worthTurn(2, 1, 3, 80);
         Due.each("gain", x::gain, 0, 0, 1, 2, 3, 4, 5, 6, 7);
         x.give(1, 0);
+        x.giveTurn(1, 3, 0, 0);
         Due.is("with one", x.gain(0), 50);
         Due.is("of who gives what is worth nothing to it", x.gain(1), 0);
         Due.is("of one that is not in it", x.gain(2), 0);
@@ -690,6 +715,8 @@ public final class EdgeTradesTest {
         ringIs(worths(new int[] {6, 7, 1}, new int[] {7, 6, 1}), 2, 6, 7, 6, 7);
         ringIs(worths(new int[] {6, 5, 1}, new int[] {7, 6, 1}, new int[] {5, 7, 1}), 3, 5, 6, 7, 5, 6, 7);
         ringIs(worths(new int[] {7, 5, 1}, new int[] {6, 7, 1}, new int[] {5, 6, 1}), 3, 5, 7, 6, 5, 7, 6);
+        int[][] others = {{4, 1, 5}, {6, 4, 5}, {1, 6, 5}, {3, 0, 9}, {5, 0, 9}, {0, 5, 0}};
+        ringIs(worths(others), 15, 1, 4, 6, 1, 4, 6);
         int[][] four = {{1, 0, 9}, {2, 1, 9}, {3, 2, 9}, {0, 3, 9}};
         Due.is("four clubs", worths(four).ring(), -1);
     }
@@ -715,6 +742,36 @@ public final class EdgeTradesTest {
         Due.is("none is legal", x.ring(), -1);
         Due.laws(x, 0, "roster 1;");
         ringIs(x, 200, 0, 1, 0, 1);
+    }
+
+    private static void ringsAboveRoster() {
+        Due.says("Terms III: RINGS that are legal: 1 more PLAYERS behind it than roster");
+        CapLeague x = worths(new int[] {0, 1, 9}, new int[] {1, 0, 9});
+        Due.laws(x, 0, "roster 2;");
+        ringIs(x, 18, 0, 1, 0, 1);
+        Due.laws(x, 0, "roster 1;");
+        Due.is("two each", x.ring(), -1);
+        x.waive(8);
+        Due.is("two of one", x.ring(), -1);
+        x.waive(9);
+        ringIs(x, 18, 0, 1, 0, 1);
+    }
+
+    /** The last players of a full league, by clubs and by numbers, are in it. */
+    private static void ringsOfSixtyPlayers() {
+        Due.says("Terms II, III: PLAYERS, at most 60; BEST: of all RINGS");
+        CapLeague x = Due.withPlayers(60);
+        for (int p = 0; p < 60; p++) {
+            x.sign(p, 7 - p / 8, 1, 1, 0, 0, false);
+        }
+        x.worth(0, 7, 5);
+        x.worth(7, 59, 5);
+        ringIs(x, 10, 0, 7, 59, 7);
+        x.worth(0, 0, 6);
+        ringIs(x, 11, 0, 7, 59, 0);
+        x.worth(3, 59, 40);
+        x.worth(7, 39, 40);
+        ringIs(x, 86, 0, 3, 7, 59, 39, 0);
     }
 
     private static void fewestClubs() {

@@ -1,10 +1,7 @@
 import java.util.Random;
 
-/** Promises 23 and 24: the best ring, also against a search through trade(), give(), check() and gain(). */
+/** Promises 23 and 24: the best ring, also against the model's search through all. */
 public final class RingTest {
-    private static int best;
-    private static int[] bestRow;
-
     public static void main(String[] args) {
         noRing();
         twoClubs();
@@ -16,8 +13,8 @@ public final class RingTest {
         rostersToldLower();
         sixtyPlayers();
         Random random = new Random(7);
-        for (int i = 0; i < 150; i++) {
-            againstAllTrades(random);
+        for (int i = 0; i < 300; i++) {
+            againstTheModel(random);
         }
         Due.done();
     }
@@ -134,24 +131,26 @@ public final class RingTest {
         Due.is("not any more", x.ring(), 10);
     }
 
+    /** To all other clubs a player is worth the same, so the dearest of three clubs go round; 3 and 4 take no part. */
     private static void sixtyPlayers() {
         CapLeague x = Due.withPlayers(60);
         for (int p = 0; p < 60; p++) {
             x.sign(p, p % 8, 1, 10, 0, 0, false);
             for (int c = 0; c < 8; c++) {
-                x.worth(c, p, p % 8 == c ? 0 : worthToOthers(p));
+                if (c != p % 8 && takesPart(c)) {
+                    x.worth(c, p, worthToOthers(p));
+                }
             }
         }
-        // To all other clubs a player is worth the same, so the dearest of three clubs go round.
         int first = x.ring();
         int[] row = {x.ringed(0), x.ringed(1), x.ringed(2), x.ringed(3), x.ringed(4), x.ringed(5), x.ringed(6)};
         int due = 0;
         for (int a = 0; a < 60; a++) {
             for (int b = 0; b < 60; b++) {
                 for (int c = 0; c < 60; c++) {
-                    if (a % 8 != b % 8 && b % 8 != c % 8 && a % 8 != c % 8) {
-                        due = Math.max(due, worthToOthers(a) + worthToOthers(b) + worthToOthers(c));
-                    }
+                    boolean isRing = a % 8 != b % 8 && b % 8 != c % 8 && a % 8 != c % 8
+                            && takesPart(a % 8) && takesPart(b % 8) && takesPart(c % 8);
+                    due = Math.max(due, isRing ? worthToOthers(a) + worthToOthers(b) + worthToOthers(c) : 0);
                 }
             }
         }
@@ -163,78 +162,44 @@ public final class RingTest {
         Due.is("again", x.ring(), due);
     }
 
+    private static boolean takesPart(int c) {
+        return c != 3 && c != 4;
+    }
+
     /** The first and the last player in a row by clubs are the dearest, so that none may be left out. */
     private static int worthToOthers(int p) {
         return p == 0 || p == 55 ? 99 : 1 + p * 37 % 50;
     }
 
-    private static void againstAllTrades(Random random) {
+    /** Many rings are even: worths are small. */
+    private static void againstTheModel(Random random) {
         int players = 2 + random.nextInt(15);
         CapLeague x = Due.withPlayers(players);
-        Due.laws(x, 0, "cap " + (40 + random.nextInt(80)) + ";match " + (60 + random.nextInt(90)) + " "
-                + random.nextInt(10) + ";spare 60;hurt 50;");
+        Model model = new Model();
+        String laws = "cap " + (40 + random.nextInt(80)) + ";match " + (60 + random.nextInt(90)) + " "
+                + random.nextInt(10) + ";spare 60;hurt 50;roster " + (1 + random.nextInt(9)) + ";";
+        Due.laws(x, 0, laws);
+        model.tell(0, laws);
         int clubs = 2 + random.nextInt(7);
         int most = 1 + random.nextInt(6);
         for (int p = 0; p < players; p++) {
-            x.sign(p, random.nextInt(clubs), 1, random.nextInt(50), 0, 0, false);
-            x.hurt(p, random.nextInt(4) == 0);
+            int club = random.nextInt(clubs);
+            int pay = random.nextInt(50);
+            boolean isHurt = random.nextInt(4) == 0;
+            x.sign(p, club, 1, pay, 0, 0, false);
+            x.hurt(p, isHurt);
+            model.player();
+            model.sign(p, club, 1, pay, 0, 0, false);
+            model.hurt(p, isHurt);
             for (int c = 0; c < 8; c++) {
-                x.worth(c, p, random.nextInt(most + 1));
+                int worth = random.nextInt(most + 1);
+                x.worth(c, p, worth);
+                model.worth(c, p, worth);
             }
         }
-        best = -1;
-        bestRow = new int[0];
-        for (int p = 0; p < players; p++) {
-            for (int q = 0; q < players; q++) {
-                tryRing(x, p, q);
-                for (int r = 0; r < players; r++) {
-                    tryRing(x, p, q, r);
-                }
-            }
+        Due.is("ring", x.ring(), model.ring());
+        for (int what = 0; what < 7; what++) {
+            Due.is("ringed " + what, x.ringed(what), model.ringed(what));
         }
-        x.trade();
-        ringed(x, best, bestRow);
-    }
-
-    private static void tryRing(CapLeague x, int... given) {
-        int n = given.length;
-        int[] row = new int[2 * n];
-        for (int i = 0; i < n; i++) {
-            row[i] = x.about(given[i], 0);
-            row[n + i] = given[i];
-            if (row[i] < 0 || i > 0 && row[i] <= row[0] || i == 2 && row[1] == row[2]) {
-                return;
-            }
-        }
-        x.trade();
-        for (int i = 0; i < n; i++) {
-            x.give(given[i], row[(i + 1) % n]);
-        }
-        if (x.check() != 0) {
-            return;
-        }
-        int sum = 0;
-        for (int i = 0; i < n; i++) {
-            if (x.gain(row[i]) <= 0) {
-                return;
-            }
-            sum += x.gain(row[i]);
-        }
-        if (sum > best || sum == best && isAhead(row, bestRow)) {
-            best = sum;
-            bestRow = row;
-        }
-    }
-
-    private static boolean isAhead(int[] row, int[] other) {
-        if (row.length != other.length) {
-            return row.length < other.length;
-        }
-        for (int i = 0; i < row.length; i++) {
-            if (row[i] != other[i]) {
-                return row[i] < other[i];
-            }
-        }
-        return false;
     }
 }
