@@ -210,7 +210,8 @@ public final class EdgeContractsTest {
         Due.says("Terms II: by how much it rises or falls each YEAR; each pay is 0 at least");
         int[][] rows = {
             {1000, -500, 1000, 500, 0, 0, 0}, {999, -500, 999, 499, 0, 0, 0}, {2000, -500, 2000, 1500, 1000, 500, 0},
-            {0, -500, 0, 0, 0, 0, 0}, {0, 500, 0, 500, 1000, 1500, 2000}, {20000, 500, 20000, 20500, 21000, 21500, 22000}
+            {0, -500, 0, 0, 0, 0, 0}, {0, 500, 0, 500, 1000, 1500, 2000},
+            {20000, 500, 20000, 20500, 21000, 21500, 22000}
         };
         for (int[] row : rows) {
             CapLeague x = rich(1);
@@ -627,7 +628,7 @@ public final class EdgeContractsTest {
     }
 
     private static void aboutYearsOfTheContract() {
-        Due.says("Promise 13: the last YEAR of the CONTRACT (a CHOICE with it); 1 if it has a CHOICE that is not TAKEN");
+        Due.says("Promise 13: the last YEAR (a CHOICE with it); 1 if it has a CHOICE that is not TAKEN");
         CapLeague x = rich(1);
         x.sign(0, 0, 5, 10, 1, 0, true);
         Due.is("last", x.about(0, 1), 4);

@@ -711,7 +711,7 @@ public final class EdgeTradesTest {
     }
 
     private static void ringOfTwoOrThree() {
-        Due.says("Terms III: RING: two or three CLUBS, each gives one PLAYER to the next one, the last one to the first");
+        Due.says("Terms III: RING: two or three CLUBS, each gives one PLAYER to the next one in it");
         ringIs(worths(new int[] {6, 7, 1}, new int[] {7, 6, 1}), 2, 6, 7, 6, 7);
         ringIs(worths(new int[] {6, 5, 1}, new int[] {7, 6, 1}, new int[] {5, 7, 1}), 3, 5, 6, 7, 5, 6, 7);
         ringIs(worths(new int[] {7, 5, 1}, new int[] {6, 7, 1}, new int[] {5, 6, 1}), 3, 5, 7, 6, 5, 7, 6);

@@ -15,8 +15,8 @@ import java.util.regex.Pattern;
 /** The face is the document's and no more, and the program keeps to what can be seen of LANGUAGE.md. */
 public final class FaceTest {
     private static final String METHODS = "feed5 end1 laws1 fault1 law2 player0 wrong7 sign7 choose1 waive1 "
-            + "hurt2 about2 club3 trade0 give2 giveTurn4 check0 gain1 deal0 worth3 worthTurn4 ring0 ringed1 table0 chance3 draw2 "
-            + "turn3 owner3 next0 purse1 count1";
+            + "hurt2 about2 club3 trade0 give2 giveTurn4 check0 gain1 deal0 worth3 worthTurn4 ring0 ringed1 table0 "
+            + "chance3 draw2 turn3 owner3 next0 purse1 count1";
 
     public static void main(String[] args) throws IOException {
         members();

@@ -1,3 +1,4 @@
+import java.util.List;
 import java.util.function.Consumer;
 import java.util.function.ToLongFunction;
 
@@ -25,22 +26,18 @@ public final class RefusedTest {
         before = Told.behind(calls);
     }
 
-    private static void refused(String call, long due, ToLongFunction<CapLeague> refused) {
-        refused(call, due, "", refused);
-    }
-
-    /** The call answers as due and leaves all as it was; what a promise says of itself may change. */
-    private static void refused(String call, long due, String but, ToLongFunction<CapLeague> refused) {
+    /** The call answers as due and leaves all as it was, but for what is told by some names. */
+    private static void refused(String call, long due, ToLongFunction<CapLeague> refused, String... but) {
         CapLeague x = new CapLeague();
         ahead.accept(x);
         Due.is(call, refused.applyAsLong(x), due);
-        if (but.isEmpty()) {
+        if (but.length == 0) {
             tapeIsLeft(call, x);
         }
         Told.same(call, Told.behind(y -> {
             ahead.accept(y);
             refused.applyAsLong(y);
-        }), before, but);
+        }), before, List.of(but));
     }
 
     private static void tapeIsLeft(String call, CapLeague x) {
@@ -115,10 +112,12 @@ public final class RefusedTest {
     private static void ofTheTape() {
         refused("end below 0", -1, x -> x.end(-1));
         refused("end beyond", -1, x -> x.end(TEXT_LEFT.length() + 1));
-        refused("laws of a year below 0", -2, "count 4", x -> x.laws(-1));
-        refused("laws of a year beyond", -2, "count 4", x -> x.laws(10));
-        refused("laws of a year gone", -2, "count 4", x -> x.laws(0));
-        refused("table of another text", -1, "count 4", CapLeague::table);
+        refused("laws of a year below 0", -2, x -> x.laws(-1), "count 4");
+        refused("laws of a year beyond", -2, x -> x.laws(10), "count 4");
+        refused("laws of a year gone", -2, x -> x.laws(0), "count 4");
+        refused("laws with a fault", -1, x -> Due.laws(x, 1, "tax 5;cap 0;"), "count 4", "fault 0", "fault 1");
+        refused("laws with the fault of before", -1, x -> Due.laws(x, 2, "tax 5;tax"), "count 4");
+        refused("table of another text", -1, CapLeague::table, "count 4");
     }
 
     private static void ofContracts() {
@@ -223,7 +222,7 @@ public final class RefusedTest {
             Due.tape(x, "ABCDEFGH");
         });
         refused("draw again", -4, x -> x.draw(0, 0));
-        refused("table again", -4, "count 4", CapLeague::table);
+        refused("table again", -4, CapLeague::table, "count 4");
         refused("turn of this year", -4, x -> x.giveTurn(6, 1, 1, 0));
         from(x -> {
             season(x);
