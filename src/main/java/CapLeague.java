@@ -81,17 +81,12 @@ public final class CapLeague {
     // ---- laws
 
     public int laws(int year) {
-        int answer = books.isNowOrLater(year) ? readLaws(year) : RANGE;
-        tape.size = 0;
-        return answer;
-    }
-
-    private int readLaws(int year) {
-        int lines = reader.readText();
-        if (lines != NONE) {
+        int answer = books.isNowOrLater(year) ? reader.readText() : RANGE;
+        if (answer >= 0) {
             lawBook.tell(year, reader.read);
         }
-        return lines;
+        tape.size = 0;
+        return answer;
     }
 
     public int fault(int what) {
@@ -512,8 +507,8 @@ public final class CapLeague {
         }
 
         Laws of(int year) {
-            for (int y = Math.min(year, YEARS - 1); y >= 0; y--) {
-                if (texts[y] != null) {
+            for (int y = YEARS - 1; y >= 0; y--) {
+                if (y <= year && texts[y] != null) {
                     return texts[y];
                 }
             }
